@@ -271,7 +271,7 @@ public final class ConvolutionBench {
             throws IndexOutOfBoundsException, IllegalStateException {
         requireSet(set);
         requireTerms(one, other);
-        return bench.isProductGreater(set, 2 * boundOf(sequenceAt(one), sequenceAt(other)));
+        return bench.areEnough(set, boundOf(sequenceAt(one), sequenceAt(other)));
     }
 
     public int plan(int kind, int one, int other, int n, int what)
@@ -281,7 +281,7 @@ public final class ConvolutionBench {
         Sequence b = sequenceAt(other);
         int size = sizeOf(kind, a, b, n);
         require(what >= 0 && what <= 2);
-        plans.find(bench, kind, size, 2 * boundOf(a, b));
+        plans.find(bench, kind, size, boundOf(a, b));
         int schoolbook = a.count * b.count;
         boolean byTransforms = plans.steps != NONE && plans.steps < schoolbook;
         switch (what) {
@@ -301,7 +301,7 @@ public final class ConvolutionBench {
         Sequence a = sequenceAt(one);
         Sequence b = sequenceAt(other);
         int size = sizeOf(kind, a, b, n);
-        plans.find(bench, kind, size, 2 * boundOf(a, b));
+        plans.find(bench, kind, size, boundOf(a, b));
         if (plans.steps == NONE) {
             throw new NoSuchElementException("there is no plan with transforms");
         }
@@ -658,15 +658,15 @@ public final class ConvolutionBench {
         }
 
         int raise(int base, int exponent) {
-            int result = 1;
-            int square = base;
+            long result = 1;
+            long square = base;
             for (int left = exponent; left > 0; left >>= 1) {
                 if ((left & 1) != 0) {
-                    result = times(result, square);
+                    result = result * square % p;
                 }
-                square = times(square, square);
+                square = square * square % p;
             }
-            return result;
+            return (int) result;
         }
 
         int invert(int unit) {
@@ -707,11 +707,11 @@ public final class ConvolutionBench {
         }
 
         int evaluate(int[] terms, int count, int x) {
-            int sum = 0;
+            long sum = 0;
             for (int j = Math.min(count, terms.length) - 1; j >= 0; j--) {
-                sum = residueOf((long) sum * x + terms[j]);
+                sum = (sum * x + terms[j]) % p;
             }
-            return sum;
+            return residueOf(sum);
         }
     }
 
@@ -908,6 +908,10 @@ public final class ConvolutionBench {
             return 1;
         }
 
+        boolean areEnough(int set, long bound) {
+            return isProductGreater(set, 2 * bound);
+        }
+
         /** Tells whether there are primes in the set and their product is greater than the limit. */
         boolean isProductGreater(int set, long limit) {
             long product = 1;
@@ -1065,25 +1069,25 @@ public final class ConvolutionBench {
     /** Finds the plan with the fewest steps among those that use transforms. */
     private static final class PlanFinder {
         private final int[] fieldSteps = new int[MOST_PRIMES];
-        private final boolean[] areEnough = new boolean[1 << MOST_PRIMES];
+        private final boolean[] isEnough = new boolean[1 << MOST_PRIMES];
         private int steps;
         private int length;
         private int set;
 
         /** Leaves NONE as the steps if there is no such plan. */
-        void find(Bench bench, int kind, int size, long limit) {
+        void find(Bench bench, int kind, int size, long bound) {
             steps = NONE;
             length = 0;
             set = 0;
             for (int tried = 0; tried < 1 << bench.primeCount; tried++) {
-                areEnough[tried] = bench.isProductGreater(tried, limit);
+                isEnough[tried] = bench.areEnough(tried, bound);
             }
             int greatest = kind == LINEAR ? MOST_LENGTH : size;
             for (int m = size; m <= greatest; m++) {
                 int usable = bench.usableFields(kind, m);
                 measureFields(bench, kind, m, usable);
                 for (int tried = 1; tried <= usable; tried++) {
-                    if ((tried & ~usable) == 0 && areEnough[tried]) {
+                    if ((tried & ~usable) == 0 && isEnough[tried]) {
                         compare(m, tried);
                     }
                 }
@@ -1197,14 +1201,14 @@ public final class ConvolutionBench {
             sequence.count = 0;
             passSpaces();
             // One term more than there may be, so that its error is found.
-            for (int k = 0; k <= MOST_TERMS && error == 0 && (here() == '-' || isDigit(here())); k++) {
+            for (int k = 0; k <= MOST_TERMS && error == 0 && (byteAt(at) == '-' || isDigit(byteAt(at))); k++) {
                 readTerm(sequence);
                 passSpaces();
             }
         }
 
         private void readTerm(Sequence sequence) {
-            boolean isNegative = here() == '-';
+            boolean isNegative = byteAt(at) == '-';
             if (isNegative) {
                 if (sequence.isFull()) {
                     fail(TOO_MANY, at);
@@ -1232,7 +1236,7 @@ public final class ConvolutionBench {
                 return;
             }
             passSpaces();
-            if (here() == ';') {
+            if (byteAt(at) == ';') {
                 at++;
                 passSpaces();
             } else {
@@ -1241,7 +1245,7 @@ public final class ConvolutionBench {
         }
 
         private void passSpaces() {
-            while (at < end && here() == ' ') {
+            while (at < end && byteAt(at) == ' ') {
                 at++;
             }
         }
@@ -1262,19 +1266,15 @@ public final class ConvolutionBench {
 
         /** Passes a number and answers it, capped if it is huge; NONE if none stands here. */
         private int passNumber() {
-            if (!isDigit(here())) {
+            if (!isDigit(byteAt(at))) {
                 return NONE;
             }
             int number = 0;
-            while (at < end && isDigit(here())) {
-                number = Math.min(10 * number + here() - '0', GREATEST_NUMBER);
+            while (at < end && isDigit(byteAt(at))) {
+                number = Math.min(10 * number + byteAt(at) - '0', GREATEST_NUMBER);
                 at++;
             }
             return number;
-        }
-
-        private int here() {
-            return byteAt(at);
         }
 
         /** A byte of the text from 0 to 255; NONE behind its end. */

@@ -206,6 +206,13 @@ final class ConvolutionsTest extends Suite {
             refused(x, ELEMENT, () -> x.transformSteps(0, 0, 0, 0));
             set(x, 0, 0);
             due(1, () -> x.transformSteps(0, 0, 0, 0));
+            x.addPrime(17);
+            x.removePrime(0);
+            set(x, 0, 8, 0);
+            set(x, 1, 1);
+            due(2 * 3 + 2, () -> x.transformSteps(1, 0, 1, 2));
+            set(x, 0, 9, 0);
+            refused(x, ELEMENT, () -> x.transformSteps(1, 0, 1, 2));
         });
         test("promises 31 and 32: wrong inputs", () -> {
             ConvolutionBench x = small();

@@ -11,6 +11,7 @@ import java.util.Map;
 final class OracleTest extends Suite {
     private static final int RUNS = 400;
     private static final int CALLS = 512;
+    private static final int PLANS = 600;
     private static final int[] PRIMES = {3, 5, 7, 11, 13, 17, 19, 29, 31, 37, 41, 61, 73, 97, 113, 193, 241, 257, 337, 449,
         577, 641, 673, 769, 12289, 30241, 39041, 40961, 43891, 55441, 65521, 65537, 92401, 99989, 99991, 100003};
 
@@ -31,6 +32,7 @@ final class OracleTest extends Suite {
     private int refusals;
     private int answers;
     private int products;
+    private int transformPlans;
 
     @Override
     void run() {
@@ -45,6 +47,48 @@ final class OracleTest extends Suite {
                 fault("too few calls: " + answers + " answers, " + refusals + " refusals, " + products + " products");
             }
         });
+        test("plans of long sequences against the oracle", () -> {
+            for (int run = 1; run <= PLANS; run++) {
+                seed = run * 104729L;
+                onePlan();
+            }
+            if (transformPlans < PLANS / 4) {
+                fault("too few plans with transforms: " + transformPlans);
+            }
+        });
+    }
+
+    /** Long sequences with small terms, so that plans with transforms win as well. */
+    private void onePlan() {
+        ConvolutionBench x = new ConvolutionBench();
+        Oracle oracle = new Oracle();
+        int primes = 1 + next(6);
+        while (x.primes() < primes) {
+            int p = pick(193, 257, 449, 577, 641, 673, 769, 12289, 30241, 39041, 40961, 55441, 65521, 65537, 92401);
+            Object[] prime = {p};
+            due(answer(methods(Oracle.class).get("addPrime"), oracle, prime),
+                    () -> answer(methods(ConvolutionBench.class).get("addPrime"), x, prime));
+        }
+        for (int slot = 0; slot < 2; slot++) {
+            int length = 26 + next(7);
+            int from = pick(0, 1, -3, 2, 1, 20, 300, 9000);
+            int step = pick(0, 0, 0, 1);
+            int at = slot;
+            due(oracle.setSequence(at, length, from, step), () -> x.setSequence(at, length, from, step));
+        }
+        for (int kind = 0; kind <= 2; kind++) {
+            int asked = kind;
+            int n = pick(32, 32, 36, 40, 48, 63, 64);
+            for (int what = 0; what <= 2; what++) {
+                int part = what;
+                int want = oracle.plan(asked, 0, 1, n, part);
+                due(want, () -> x.plan(asked, 0, 1, n, part));
+                transformPlans += part == 1 && want > 0 ? 1 : 0;
+            }
+            Object[] arguments = {kind, 0, 1, n};
+            due(answer(methods(Oracle.class).get("transformSteps"), oracle, arguments),
+                    () -> answer(methods(ConvolutionBench.class).get("transformSteps"), x, arguments));
+        }
     }
 
     private boolean oneRun(int run) {

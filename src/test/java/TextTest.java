@@ -129,7 +129,11 @@ final class TextTest extends Suite {
             wrong(";", SYNTAX, 0);
             wrong("  7", SYNTAX, 2);
             wrong("primes 7;", SYNTAX, 0);
+            wrong("primea 7;", SYNTAX, 0);
+            wrong("primez 7;", SYNTAX, 0);
             wrong("prim 7;", SYNTAX, 0);
+            wrong("prime" + (char) ('a' - 1) + "7;", SYNTAX, 5);
+            wrong("prime" + (char) ('z' + 1) + "7;", SYNTAX, 5);
             wrong("Prime 7;", SYNTAX, 0);
             wrong("pRime 7;", SYNTAX, 0);
             wrong("sequences 1;", SYNTAX, 0);
