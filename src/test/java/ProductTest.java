@@ -104,12 +104,8 @@ final class ProductTest extends Suite {
 
     private void recombining() {
         test("promises 33, 35, 36: a modulus near the limit", () -> {
-            // 62501 * 100003 * 25301 * 25309 is less than 4 * 10^18, so are all parts of it.
             ConvolutionBench x = withPrimes(99991, 99989, 99971, 3989);
-            x.setSequence(0, 32, -9999, 0);
             due(true, () -> modulus(x, 15).compareTo(BigInteger.valueOf(3_980_000_000_000_000_000L)) > 0);
-            due(1, () -> x.multiply(1, 1, 1, 1, withOne(x, 1, 7)));
-            due(-7L * -7, () -> x.value(0));
             set(x, 1, -9999);
             set(x, 2, 9999);
             due(1, () -> x.multiply(0, 1, 2, 1, 15));
@@ -119,12 +115,6 @@ final class ProductTest extends Suite {
             due(99980001L, () -> x.value(0));
             due(99980001L, () -> wholeOfDigits(x, 15).longValueExact());
         });
-    }
-
-    /** Makes a slot hold -term alone and answers the set of four primes. */
-    private static int withOne(ConvolutionBench x, int slot, int term) {
-        set(x, slot, -term);
-        return 15;
     }
 
     private static BigInteger wholeOfDigits(ConvolutionBench x, int set) {
