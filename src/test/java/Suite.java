@@ -7,6 +7,14 @@ abstract class Suite {
         Object answer();
     }
 
+    interface CallOn {
+        Object answer(ConvolutionBench x);
+    }
+
+    interface Maker {
+        ConvolutionBench make();
+    }
+
     static final int NONE = ConvolutionBench.NONE;
     static final Class<?> INDEX = IndexOutOfBoundsException.class;
     static final Class<?> ARGUMENT = IllegalArgumentException.class;
@@ -44,12 +52,7 @@ abstract class Suite {
 
     /** Checks an answer; want is a long, an int or a boolean. */
     void due(Object want, Call call) {
-        Object got;
-        try {
-            got = call.answer();
-        } catch (RuntimeException e) {
-            got = e.getClass();
-        }
+        Object got = told(call);
         if (!plain(want).equals(plain(got))) {
             faults.add("answered " + got + ", due is " + want + " at " + place());
         }
@@ -59,18 +62,22 @@ abstract class Suite {
     void refused(ConvolutionBench x, Class<?> want, Call... calls) {
         for (int i = 0; i < calls.length; i++) {
             String before = look(x);
-            Object got;
-            try {
-                got = calls[i].answer();
-            } catch (RuntimeException e) {
-                got = e.getClass();
-            }
+            Object got = told(calls[i]);
             if (!want.equals(got)) {
                 faults.add("call " + i + " answered " + got + ", due is " + want + " at " + place());
             }
             if (!before.equals(look(x))) {
                 faults.add("call " + i + " changed the bench at " + place());
             }
+        }
+    }
+
+    /** The answer of a call, or the class of the exception that it throws. */
+    static Object told(Call call) {
+        try {
+            return call.answer();
+        } catch (RuntimeException e) {
+            return e.getClass();
         }
     }
 
@@ -138,6 +145,17 @@ abstract class Suite {
         return seen.append(lookAtProduct(x)).toString();
     }
 
+    /** All that can be seen of a bench, also by undoing and by loading what was fed; it is used up behind this. */
+    static String lookThrough(ConvolutionBench x) {
+        StringBuilder seen = new StringBuilder(look(x));
+        for (int i = 0; i <= 8; i++) {
+            seen.append("\nundo ").append(told(x::undo)).append(' ').append(look(x));
+        }
+        Object fed = told(() -> x.feed(0x20202020, 0x20202020, 0x20202020, 0x20202020, 0x20202020));
+        int length = fed instanceof Integer ? (Integer) fed : 600;
+        return seen.append("\nload ").append(length).append(' ').append(x.load(length)).append(look(x)).toString();
+    }
+
     static String terms(ConvolutionBench x, int slot) {
         StringBuilder seen = new StringBuilder();
         for (int k = 0; k < x.length(slot); k++) {
@@ -153,10 +171,20 @@ abstract class Suite {
                 seen.append(what == 0 ? " product " : " ").append(x.product(what));
             }
             for (int k = 0; k < x.product(0); k++) {
-                seen.append(k == 0 ? ": " : " ").append(x.value(k)).append('/').append(x.digit(k, 0));
+                seen.append(k == 0 ? ": " : " ").append(x.value(k)).append('/').append(digits(x, k));
             }
+            seen.append(" at 2: ").append(x.productAt(2));
         } catch (IllegalStateException e) {
             seen.append(" no product");
+        }
+        return seen.toString();
+    }
+
+    /** The mixed digits of a coefficient, the lowest first. */
+    static String digits(ConvolutionBench x, int k) {
+        StringBuilder seen = new StringBuilder();
+        for (int digit = 0; digit < Integer.bitCount(x.product(1)); digit++) {
+            seen.append(digit == 0 ? "" : ",").append(x.digit(k, digit));
         }
         return seen.toString();
     }
