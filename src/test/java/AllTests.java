@@ -7,7 +7,9 @@ final class AllTests {
     public static void main(String[] args) throws IOException {
         Suite[] suites = {new FaceTest(), new TextTest(), new PrimesTest(), new SequencesTest(),
             new TransformsTest(), new ConvolutionsTest(), new ProductTest(), new ChangesTest(),
-            new PrimeEdgesTest(), new SequenceEdgesTest(), new TransformEdgesTest(), new RefusalTest(), new LanguageTest(), new OracleTest()};
+            new PrimeEdgesTest(), new SequenceEdgesTest(), new TransformEdgesTest(),
+            new ConvolutionEdgesTest(), new PlanEdgesTest(), new ProductEdgesTest(), new TextEdgesTest(),
+            new ChangeEdgesTest(), new RefusalTest(), new LanguageTest(), new OracleTest()};
         for (Suite suite : suites) {
             suite.run();
         }

@@ -3,11 +3,17 @@ final class Benches {
     private Benches() {
     }
 
-    /** Primes 17, 13, 97; slots of 4, 2, 0 and 1 terms; a product of 4 coefficients by the last prime; one change undone. */
-    static ConvolutionBench rich() {
+    /** Primes 17, 13, 97; slots of 4, 2, 0 and 1 terms; a twisted product of 4 coefficients by the last prime. */
+    static ConvolutionBench multiplied() {
         ConvolutionBench x = new ConvolutionBench();
         Suite.load(x, "prime 17;prime 13;prime 97;sequence 0 1 2 3 4;sequence 1 5 6;sequence 3 -7;");
         x.multiply(2, 0, 1, 4, 4);
+        return x;
+    }
+
+    /** The same with a change undone, the position of an error and 40 bytes of a text that is not loaded. */
+    static ConvolutionBench rich() {
+        ConvolutionBench x = multiplied();
         x.append(1, 9);
         x.undo();
         Suite.load(x, "prime 8;");
