@@ -602,6 +602,12 @@ public final class ConvolutionBench {
         return best;
     }
 
+    private static void copyFields(Field[] from, Field[] to) {
+        for (int i = 0; i < from.length && i < to.length; i++) {
+            to[i] = from[i];
+        }
+    }
+
     /** The numbers modulo a prime. It never changes, so states that are kept for undo share it. */
     private static final class Field {
         // 2 * 3 * 5 * 7 * 11 * 13 * 17 is greater than every p - 1.
@@ -840,7 +846,7 @@ public final class ConvolutionBench {
             length = other.length;
             modulus = other.modulus;
             System.arraycopy(other.values, 0, values, 0, MOST_LENGTH);
-            System.arraycopy(other.fields, 0, fields, 0, MOST_PRIMES);
+            copyFields(other.fields, fields);
         }
     }
 
@@ -937,7 +943,7 @@ public final class ConvolutionBench {
 
         void copyFrom(Bench other) {
             primeCount = other.primeCount;
-            System.arraycopy(other.fields, 0, fields, 0, MOST_PRIMES);
+            copyFields(other.fields, fields);
             for (int slot = 0; slot < SLOTS; slot++) {
                 sequences[slot].copyFrom(other.sequences[slot]);
             }

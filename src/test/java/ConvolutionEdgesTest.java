@@ -49,7 +49,8 @@ final class ConvolutionEdgesTest extends Suite {
                 due(1, () -> x.size(asked, 0, 0, 1));
                 due(64, () -> x.size(asked, 0, 0, 64));
                 refused(x, ARGUMENT, () -> x.size(asked, 0, 0, 0), () -> x.size(asked, 0, 0, 65),
-                        () -> x.size(asked, 0, 0, -1), () -> x.size(asked, 0, 0, LEAST), () -> x.size(asked, 0, 0, MOST));
+                        () -> x.size(asked, 0, 0, -1), () -> x.size(asked, 0, 0, LEAST),
+                        () -> x.size(asked, 0, 0, MOST));
             }
         });
         test("promise 27: N is at least the lengths of both", () -> {
@@ -89,7 +90,8 @@ final class ConvolutionEdgesTest extends Suite {
                     () -> x.bound(0, 2), () -> x.bound(2, 0), () -> x.coefficient(0, 0, 2, 0, 0),
                     () -> x.coefficient(0, 2, 0, 0, 0), () -> x.isEnough(0, 0, 2), () -> x.isEnough(0, 2, 0),
                     () -> x.plan(0, 0, 2, 0, 0), () -> x.plan(0, 2, 0, 0, 0), () -> x.transformSteps(0, 0, 2, 0),
-                    () -> x.transformSteps(0, 2, 0, 0), () -> x.multiply(0, 0, 2, 5, 0), () -> x.multiply(0, 2, 0, 5, 0));
+                    () -> x.transformSteps(0, 2, 0, 0), () -> x.multiply(0, 0, 2, 5, 0),
+                    () -> x.multiply(0, 2, 0, 5, 0));
         });
     }
 

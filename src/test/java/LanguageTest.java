@@ -10,9 +10,12 @@ import java.util.regex.Pattern;
 
 /** A coarse look at the rules of ../shared/LANGUAGE.md that a text or a class file shows. */
 final class LanguageTest extends Suite {
-    private static final String[] FORBIDDEN = {"->", "::", "\\bcatch\\b", "\\btry\\b", "\\bfinally\\b", "\\bsynchronized\\b",
-        "\\bassert\\b", "\\binstanceof\\b", "\\bstatic \\{", "^package\\b", "\\bprotected\\b", "\\bvar\\b", "\\bequals\\b",
-        "\\bhashCode\\b", "\\btoString\\b", "\\bSystem\\.(?!arraycopy)", "Exact\\(", "\\bpublic (?!final class|static final int|Conv|int|long|boolean)"};
+    private static final String[] FORBIDDEN = {"->", "::", "\\bcatch\\b", "\\btry\\b", "\\bfinally\\b",
+        "\\bsynchronized\\b", "\\bassert\\b", "\\binstanceof\\b", "\\bstatic \\{", "^package\\b", "\\bprotected\\b",
+        "\\bvar\\b", "\\bequals\\b", "\\bhashCode\\b", "\\btoString\\b", "\\bSystem\\.(?!arraycopy)", "Exact\\(",
+        "\\bpublic (?!final class|static final int|Conv|int|long|boolean)"};
+    private static final Pattern HEAD = Pattern.compile(
+            "^( {4}| {8})(?!private static final|return)[\\w<>\\[\\]][\\w<>\\[\\] ]*\\(.*");
 
     @Override
     void run() {
@@ -48,7 +51,7 @@ final class LanguageTest extends Suite {
         int start = -1;
         String indent = "";
         for (int i = 0; i < lines.size(); i++) {
-            Matcher head = Pattern.compile("^( {4}| {8})(?!private static final|return)[\\w<>\\[\\]][\\w<>\\[\\] ]*\\(.*").matcher(lines.get(i));
+            Matcher head = HEAD.matcher(lines.get(i));
             if (start < 0 && head.matches()) {
                 start = i;
                 indent = head.group(1);

@@ -56,7 +56,8 @@ final class PrimeEdgesTest extends Suite {
                 int number = i;
                 due(primes[number], () -> x.prime(number, 0));
             }
-            refused(x, INDEX, () -> x.prime(6, 0), () -> x.prime(-1, 0), () -> x.prime(LEAST, 0), () -> x.prime(MOST, 0));
+            refused(x, INDEX, () -> x.prime(6, 0), () -> x.prime(-1, 0), () -> x.prime(LEAST, 0),
+                    () -> x.prime(MOST, 0));
         });
     }
 
@@ -75,7 +76,8 @@ final class PrimeEdgesTest extends Suite {
         test("promise 6: p must be a prime", () -> {
             ConvolutionBench x = new ConvolutionBench();
             refused(x, ARGUMENT, () -> x.addPrime(4), () -> x.addPrime(9), () -> x.addPrime(313 * 317),
-                    () -> x.addPrime(313 * 313), () -> x.addPrime(3 * 33331), () -> x.addPrime(99999), () -> x.addPrime(100002));
+                    () -> x.addPrime(313 * 313), () -> x.addPrime(3 * 33331), () -> x.addPrime(99999),
+                    () -> x.addPrime(100002));
         });
     }
 
@@ -123,7 +125,8 @@ final class PrimeEdgesTest extends Suite {
             ConvolutionBench x = withPrimes(17);
             due(17, () -> x.prime(0, 0));
             due(5, () -> x.prime(0, 4));
-            refused(x, ARGUMENT, () -> x.prime(0, -1), () -> x.prime(0, 5), () -> x.prime(0, LEAST), () -> x.prime(0, MOST));
+            refused(x, ARGUMENT, () -> x.prime(0, -1), () -> x.prime(0, 5), () -> x.prime(0, LEAST),
+                    () -> x.prime(0, MOST));
         });
         test("promise 8: the least prime", () -> described(3, 3, 2, 2, 1, 2));
         test("promise 8: the greatest prime", () -> described(100003, 100003, 2, 2, 4, 8));
@@ -162,7 +165,8 @@ final class PrimeEdgesTest extends Suite {
         });
         test("promise 9: an order is p - 1 at most", () -> {
             ConvolutionBench x = withPrimes(97, 3);
-            refused(x, ARGUMENT, () -> x.root(0, 97), () -> x.root(0, 2 * 96), () -> x.root(1, 3), () -> x.root(0, MOST));
+            refused(x, ARGUMENT, () -> x.root(0, 97), () -> x.root(0, 2 * 96), () -> x.root(1, 3),
+                    () -> x.root(0, MOST));
         });
         test("promise 9: an order in its range that does not divide p - 1", () -> {
             ConvolutionBench x = withPrimes(97);
@@ -248,6 +252,16 @@ final class PrimeEdgesTest extends Suite {
                 power = power * 2 % 101;
             }
         });
+        test("promise 12: orders by a p - 1 with the most prime factors", () -> {
+            ConvolutionBench x = withPrimes(43891);
+            due(1, () -> x.order(0, 1));
+            due(2926, () -> x.order(0, 2));
+            due(43890, () -> x.order(0, 3));
+            due(7315, () -> x.order(0, 5));
+            due(14630, () -> x.order(0, 7));
+            due(2, () -> x.order(0, -1));
+            due(43889, () -> x.logarithm(0, 29261));
+        });
         test("promise 12: multiples have no order", () -> {
             ConvolutionBench x = withPrimes(97);
             refused(x, ELEMENT, () -> x.order(0, 0), () -> x.order(0, 97), () -> x.order(0, -97));
@@ -274,8 +288,10 @@ final class PrimeEdgesTest extends Suite {
             due(65, () -> x.power(0, 5, x.logarithm(0, MOST)));
         });
         test("promise 13: logarithms by one prime behind those by another", () -> {
-            ConvolutionBench x = withPrimes(331, 7, 100003, 5);
+            ConvolutionBench x = withPrimes(331, 7, 100003, 5, 65537);
             due(329, () -> x.logarithm(0, 221));
+            due(10, () -> x.logarithm(2, 1024));
+            due(28672, () -> x.logarithm(4, 1024));
             for (int value = 1; value < 7; value++) {
                 int asked = value;
                 due(value, () -> x.power(1, 3, x.logarithm(1, asked)));
@@ -340,7 +356,8 @@ final class PrimeEdgesTest extends Suite {
             ConvolutionBench x = withPrimes(193, 257, 131);
             due(7, () -> x.usable(0, 1));
             due(3, () -> x.usable(1, 64));
-            refused(x, ARGUMENT, () -> x.usable(0, 0), () -> x.usable(1, 65), () -> x.usable(2, 65), () -> x.usable(0, MOST));
+            refused(x, ARGUMENT, () -> x.usable(0, 0), () -> x.usable(1, 65), () -> x.usable(2, 65),
+                    () -> x.usable(0, MOST));
         });
         test("promise 15: for kind 2 the double of the length counts", () -> {
             ConvolutionBench x = withPrimes(193, 257, 131);

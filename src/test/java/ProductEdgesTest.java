@@ -40,7 +40,8 @@ final class ProductEdgesTest extends Suite {
             due("5 16 27 38 24", () -> values(x));
             due(64, () -> x.product(3));
             refused(x, ARGUMENT, () -> x.multiply(0, 0, 1, 4, 2), () -> x.multiply(0, 0, 1, 65, 4),
-                    () -> x.multiply(0, 0, 1, 0, 2), () -> x.multiply(0, 0, 1, -5, 2), () -> x.multiply(0, 0, 1, LEAST, 2),
+                    () -> x.multiply(0, 0, 1, 0, 2), () -> x.multiply(0, 0, 1, -5, 2),
+                    () -> x.multiply(0, 0, 1, LEAST, 2),
                     () -> x.multiply(0, 0, 1, MOST, 2));
         });
         test("promise 33: the greatest linear product", () -> {
@@ -189,7 +190,8 @@ final class ProductEdgesTest extends Suite {
             due(4, () -> x.product(1));
             due(2, () -> x.product(2));
             due(4, () -> x.product(3));
-            refused(x, ARGUMENT, () -> x.product(-1), () -> x.product(4), () -> x.product(LEAST), () -> x.product(MOST));
+            refused(x, ARGUMENT, () -> x.product(-1), () -> x.product(4), () -> x.product(LEAST),
+                    () -> x.product(MOST));
         });
         test("promise 34: N and the transform length of a linear product", () -> {
             ConvolutionBench x = Benches.multiplied();
