@@ -1,8 +1,5 @@
 /** Section 3 and promises 27 to 30: a test for each sentence that names an edge. */
 final class ConvolutionEdgesTest extends Suite {
-    private static final int LEAST = Integer.MIN_VALUE;
-    private static final int MOST = Integer.MAX_VALUE;
-
     @Override
     void run() {
         sizes();

@@ -1,8 +1,5 @@
 /** Section 1 and promises 5 to 15: a test for each sentence that names a least, a greatest or another edge. */
 final class PrimeEdgesTest extends Suite {
-    private static final int LEAST = Integer.MIN_VALUE;
-    private static final int MOST = Integer.MAX_VALUE;
-
     @Override
     void run() {
         counts();

@@ -1,8 +1,5 @@
 /** Promises 33 to 40: a test for each sentence that names an edge. */
 final class ProductEdgesTest extends Suite {
-    private static final int LEAST = Integer.MIN_VALUE;
-    private static final int MOST = Integer.MAX_VALUE;
-
     @Override
     void run() {
         lengths();

@@ -1,8 +1,5 @@
 /** The slots of section 2 and promises 16 to 21: a test for each sentence that names an edge. */
 final class SequenceEdgesTest extends Suite {
-    private static final int LEAST = Integer.MIN_VALUE;
-    private static final int MOST = Integer.MAX_VALUE;
-
     @Override
     void run() {
         slots();

@@ -16,6 +16,8 @@ abstract class Suite {
     }
 
     static final int NONE = ConvolutionBench.NONE;
+    static final int LEAST = Integer.MIN_VALUE;
+    static final int MOST = Integer.MAX_VALUE;
     static final Class<?> INDEX = IndexOutOfBoundsException.class;
     static final Class<?> ARGUMENT = IllegalArgumentException.class;
     static final Class<?> STATE = IllegalStateException.class;

@@ -1,10 +1,5 @@
 /** The texts of section 5 and promises 2 to 4: a test for each sentence that names an edge. */
-final class TextEdgesTest extends Suite {
-    private static final int SYNTAX = ConvolutionBench.SYNTAX_ERROR;
-    private static final int VALUE = ConvolutionBench.VALUE_ERROR;
-    private static final int MANY = ConvolutionBench.TOO_MANY;
-    private static final String SIX = "prime 3;prime 5;prime 7;prime 11;prime 13;prime 17;";
-
+final class TextEdgesTest extends Texts {
     @Override
     void run() {
         feeding();
@@ -39,15 +34,6 @@ final class TextEdgesTest extends Suite {
         ConvolutionBench x = new ConvolutionBench();
         load(x, text);
         return x;
-    }
-
-    /** A statement with so many terms 1. */
-    private static String ones(int count) {
-        StringBuilder text = new StringBuilder("sequence 1");
-        for (int k = 0; k < count; k++) {
-            text.append(" 1");
-        }
-        return text.toString();
     }
 
     private void feeding() {

@@ -1,10 +1,5 @@
 /** Promises 2 to 4: the texts. */
-final class TextTest extends Suite {
-    private static final int SYNTAX = ConvolutionBench.SYNTAX_ERROR;
-    private static final int VALUE = ConvolutionBench.VALUE_ERROR;
-    private static final int MANY = ConvolutionBench.TOO_MANY;
-    private static final String SIX = "prime 3;prime 5;prime 7;prime 11;prime 13;prime 17;";
-
+final class TextTest extends Texts {
     @Override
     void run() {
         feeding();
@@ -197,14 +192,6 @@ final class TextTest extends Suite {
             due(100003, () -> x.prime(1, 0));
             due(true, () -> terms(x, 3).equals(" 9999 -9999 0 5"));
         });
-    }
-
-    private static String ones(int count) {
-        StringBuilder text = new StringBuilder("sequence 1");
-        for (int k = 0; k < count; k++) {
-            text.append(" 1");
-        }
-        return text.toString();
     }
 
     private void tooMany() {

@@ -1,8 +1,5 @@
 /** The transforms of section 2 and promises 22 to 26: a test for each sentence that names an edge. */
 final class TransformEdgesTest extends Suite {
-    private static final int LEAST = Integer.MIN_VALUE;
-    private static final int MOST = Integer.MAX_VALUE;
-
     @Override
     void run() {
         lengths();
