@@ -9,7 +9,7 @@ final class AllTests {
             new TransformsTest(), new ConvolutionsTest(), new ProductTest(), new ChangesTest(),
             new PrimeEdgesTest(), new SequenceEdgesTest(), new TransformEdgesTest(),
             new ConvolutionEdgesTest(), new PlanEdgesTest(), new ProductEdgesTest(), new TextEdgesTest(),
-            new ChangeEdgesTest(), new RefusalTest(), new LanguageTest(), new OracleTest()};
+            new ChangeEdgesTest(), new RefusalTest(), new ReadmeTest(), new LanguageTest(), new OracleTest()};
         for (Suite suite : suites) {
             suite.run();
         }
